@@ -25,6 +25,8 @@ public final class PromisesTest {
         theTill();
         whatWasGone();
         traysAndImages();
+        eachAlone();
+        laterQuestions();
         CHECKS.end();
     }
 
@@ -161,6 +163,13 @@ public final class PromisesTest {
         text("shop;lets 1 = 1;", 2, 10);
         text("shop;kind price 0;?", 3, 16);
         text("shop;salt ?;", 2, 5);
+        text("shop;zz;", 2, 5);
+        text("shop;kind price who;", 2, 16);
+        text("shop;wants : shop;", 2, 13);
+        text("shop;lets : 1;", 2, 13);
+        text("shop;lets : [ 1 ];", 2, 16);
+        text("shop;hiddens;", 2, 5);
+        text("shop;kin price 1;", 2, 5);
         String kinds = "kind price 1;kind price 1;kind price 1;kind price 1;";
         text("shop;" + kinds + kinds, 0, -1);
         text("shop;" + kinds + kinds + "kind price 0;", 4, 109);
@@ -1045,5 +1054,101 @@ public final class PromisesTest {
         x.visit(1);
         due("restore(1), again", x.restore(1), 0);
         due("sold", x.count(2), counts[2]);
+    }
+
+    // ---- one call behind the other
+
+    private static OneOfEach pairWith(long... numbers) {
+        OneOfEach x = Checks.shop(PAIR);
+        Checks.tray(x, 0, numbers);
+        return x;
+    }
+
+    /** Each question as the first one of its object: none lives on what another has left. */
+    private static void eachAlone() {
+        promise = 19;
+        due("ending()", pairWith().ending(), 2);
+        promise = 20;
+        due("endingBy(1)", pairWith().endingBy(1), 1);
+        promise = 21;
+        due("endings(2)", pairWith().endings(2), 2);
+        promise = 22;
+        due("needed()", pairWith().needed(), 2);
+        promise = 23;
+        due("sellable()", pairWith().sellable(), 3);
+        promise = 24;
+        due("guards()", Checks.shop(CHAIN).guards(), 1);
+        promise = 25;
+        due("last()", pairWith().last(), 2);
+        promise = 26;
+        due("open(3, 1)", pairWith().open(3, 1), 9);
+        promise = 27;
+        due("likely(34)", pairWith().likely(34), 3);
+        promise = 28;
+        due("shutsBy(1, 3, 0)", pairWith().shutsBy(1, 3, 0), 5);
+        promise = 29;
+        due("closer(2)", pairWith().closer(2), 1);
+        promise = 30;
+        due("soldIn(1, 3, 0)", pairWith().soldIn(1, 3, 0), 5);
+        promise = 31;
+        due("hides(1, 2, 1)", Checks.shop(CHAIN).hides(1, 2, 1), 1);
+        promise = 32;
+        due("rota(1)", Checks.shop(LINKED).rota(1), 1);
+        promise = 33;
+        due("earns(3, 0)", pairWith().earns(3, 0), 71);
+        promise = 34;
+        due("bestPrice(1, 1), from there on kind 0 is bought", pairWith().bestPrice(1, 1), 4);
+        promise = 35;
+        due("seen", pairWith(9).seen(0), 4);
+        promise = 36;
+        due("sureGone", pairWith(9).sureGone(0), 1);
+        promise = 37;
+        due("ask", pairWith(9).ask(0), 1);
+        promise = 38;
+        due("came", pairWith(0, 1).came(0), 2);
+        promise = 39;
+        due("who at 0", pairWith(0, 1).who(0, 0), 3);
+        due("who at 1", pairWith(0, 1).who(0, 1), 2);
+        promise = 42;
+        due("lists", pairWith(7, 7).lists(0), 2);
+    }
+
+    /** What was asked ahead of a deed must not stay in what is asked behind it. */
+    private static void laterQuestions() {
+        promise = 12;
+        OneOfEach x = Checks.shop("shop;kind price 5;buyer purse 9;wants : group + sold;");
+        x.add(3, 1);
+        due("buyer(0, 4)", x.buyer(0, 4), 1);
+        x.undo(1);
+        x.add(3, 0);
+        due("buyer(0, 4), another group", x.buyer(0, 4), -1);
+        promise = 13;
+        x.undo(1);
+        x.add(3, 1);
+        due("ending(), kind 0 isn't wanted", x.ending(), -1);
+        OneOfEach y = Checks.shop("shop;kind price 5;kind price 6;buyer purse 9;");
+        due("buyer(0, 4)", y.buyer(0, 4), 0);
+        y.price(1, 4);
+        due("buyer(0, 4), cheaper", y.buyer(0, 4), 1);
+        y.undo(1);
+        due("buyer(0, 4), undone", y.buyer(0, 4), 0);
+        y.bestPrice(0, 1);
+        due("buyer(0, 4), behind bestPrice", y.buyer(0, 4), 0);
+        Checks.tray(y, 0, 1104, 0);
+        y.judge(0, 2);
+        due("buyer(0, 4), behind judge", y.buyer(0, 4), 0);
+        promise = 3;
+        Checks.tell(y, "shop;kind price 5;kind price 6;buyer purse 9;wants : price;");
+        due("buyer(0, 4), another law", y.buyer(0, 4), 1);
+        y.image(0);
+        Checks.tell(y, "shop;kind price 5;kind price 6;buyer purse 9;lets : kind = 0;");
+        due("buyer(0, 4), another law again", y.buyer(0, 4), 0);
+        promise = 44;
+        y.restore(0);
+        due("buyer(0, 4), the law of the image", y.buyer(0, 4), 1);
+        promise = 17;
+        Checks.tray(y, 0, 1004, 1003, 0, 0);
+        due("perform", y.perform(0), 4);
+        due("till", y.count(5), 12);
     }
 }
