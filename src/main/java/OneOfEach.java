@@ -1112,7 +1112,7 @@ public final class OneOfEach {
                     good = tokens[size] != Mark.BAD;
                     size++;
                 }
-                i = end;
+                i = Math.max(i + 1, end);
             }
             places[size] = n;
             tokens[size] = Mark.END;
@@ -1384,7 +1384,9 @@ public final class OneOfEach {
                 if (price[k] != stock.price[k] || group[k] != stock.group[k]) {
                     price[k] = stock.price[k];
                     group[k] = stock.group[k];
-                    Arrays.fill(appetites, k * OF_A_KIND, (k + 1) * OF_A_KIND, UNKNOWN);
+                    for (int i = k * OF_A_KIND; i < (k + 1) * OF_A_KIND && i < appetites.length; i++) {
+                        appetites[i] = UNKNOWN;
+                    }
                 }
             }
         }

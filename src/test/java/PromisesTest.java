@@ -277,6 +277,9 @@ public final class PromisesTest {
         wanted("(0 - 999) * 999 * 2", -1000000);
         wanted("999 * 999 + 999 + 999 + 1", 1000000);
         wanted("999 * 999 + 999 + 999 + 1 - 1", 999999);
+        String head = "shop;kind price 1;buyer purse 2;wants:1";
+        OneOfEach longest = Checks.shop(head + "+1".repeat((899 - head.length()) / 2) + ";");
+        due("a law as long as the text may be", longest.wants(0, 0), 1 + (899 - head.length()) / 2);
         let("1 = 1", 1);
         let("1 = 2", 0);
         let("2 > 1", 1);

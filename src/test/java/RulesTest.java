@@ -79,6 +79,8 @@ public final class RulesTest {
             }
             must(c + " has at most twenty fields", fields <= 20);
             for (Method m : c.getDeclaredMethods()) {
+                must(c + "." + m.getName() + " has a name of its own",
+                    c == OneOfEach.class || !(" " + FACE).contains(" " + m.getName() + "/"));
                 must(c + "." + m.getName() + " takes at most seven", m.getParameterCount() <= 7);
             }
         }
