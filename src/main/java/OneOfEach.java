@@ -196,6 +196,7 @@ public final class OneOfEach {
     // ---- deeds
 
     public int seed(int n) {
+        past.keep(stock);
         int old = stock.x;
         stock.x = n;
         return old;

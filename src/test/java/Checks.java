@@ -64,6 +64,13 @@ final class Checks {
         return x;
     }
 
+    /** x, looked at and left as it is: no more calls can be undone behind it than ahead (the eldest of ten is forgotten). */
+    static int xOf(OneOfEach x) {
+        int was = x.seed(0);
+        x.undo(1);
+        return was;
+    }
+
     static void tray(OneOfEach x, int tray, long... numbers) {
         x.numbers(tray, 3, numbers.length);
         for (int i = 0; i < numbers.length; i++) {

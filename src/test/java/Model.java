@@ -472,6 +472,7 @@ final class Model {
     }
 
     int seed(int n) {
+        remember(save());
         int old = x;
         x = n;
         return old;

@@ -90,7 +90,7 @@ public final class PromisesTest {
         for (int i = 0; i < behind.length; i++) {
             due("count(" + i + ")", x.count(i), behind[i]);
         }
-        due("x is 0", x.seed(0), 0);
+        due("x is 0", Checks.xOf(x), 0);
         x.visit(0);
         due("a fault", Checks.tell(x, "shop;kind price 1"), -32);
         due("all stays", x.count(2), 1);
@@ -316,9 +316,14 @@ public final class PromisesTest {
         due("seed(5)", x.seed(5), 0);
         due("seed(-9)", x.seed(-9), 5);
         due("seed(0)", x.seed(0), -9);
-        due("it is no deed", x.count(9), 0);
+        due("calls that can be undone", x.count(9), 3);
         x.days(1);
         due("seed(0), drawn", x.seed(0), 12345);
+        due("calls that can be undone", x.count(9), 5);
+        OneOfEach y = new OneOfEach();
+        due("seed(7), without a shop", y.seed(7), 0);
+        due("undo(1)", y.undo(1), 0);
+        due("x", y.seed(0), 0);
     }
 
     private static void visit() {
@@ -416,14 +421,14 @@ public final class PromisesTest {
         due("days(2), the second, then shut", x.days(2), 1);
         due("day", x.count(7), 3);
         due("till", x.count(5), 11);
-        due("x, drawn thrice", x.seed(0), -1492899873);
+        due("x, drawn thrice", Checks.xOf(x), -1492899873);
         due("calls to undo", x.count(9), 2);
         due("days(99)", x.days(99), 0);
         due("day", x.count(7), 102);
         OneOfEach y = Checks.shop("shop;kind price 1;buyer purse 2 odds 0;");
         due("days(5), nobody comes", y.days(5), 0);
         due("day", y.count(7), 5);
-        due("x, no draw", y.seed(0), 0);
+        due("x, no draw", Checks.xOf(y), 0);
     }
 
     private static void undo() {
@@ -441,7 +446,7 @@ public final class PromisesTest {
         due("undo(7)", x.undo(7), -3);
         due("undo(1)", x.undo(1), 5);
         due("day", x.count(7), 0);
-        due("x", x.seed(0), 0);
+        due("x", Checks.xOf(x), 0);
         due("undo(1)", x.undo(1), 4);
         due("kinds", x.count(0), 3);
         due("undo(1)", x.undo(1), 3);
@@ -459,11 +464,43 @@ public final class PromisesTest {
         due("undo(11)", x.undo(11), -3);
         due("undo(10)", x.undo(10), 0);
         due("gifts", x.count(6), 3);
+        undoSeed();
+    }
+
+    private static void undoSeed() {
+        OneOfEach x = Checks.shop(PAIR);
         x.seed(77);
         x.days(1);
+        int drawn = Checks.xOf(x);
         x.seed(5);
-        x.undo(1);
-        due("x as ahead of the call", x.seed(0), 77);
+        due("undo(1), a seed", x.undo(1), 2);
+        due("x as ahead of the seed", Checks.xOf(x), drawn);
+        due("the day stays", x.count(7), 1);
+        due("undo(1), the day", x.undo(1), 1);
+        due("x as ahead of the day", Checks.xOf(x), 77);
+        due("undo(1), the first seed", x.undo(1), 0);
+        due("x", Checks.xOf(x), 0);
+        x.seed(0);
+        x.seed(0);
+        due("undo(1), x stays the same", x.undo(1), 1);
+        due("undo(1), x stays the same", x.undo(1), 0);
+        x.gift(0);
+        for (int i = 1; i <= 10; i++) {
+            x.seed(i);
+        }
+        due("ten seeds, the gift is forgotten", x.count(9), 10);
+        due("undo(10)", x.undo(10), 0);
+        due("gifts stay", x.count(6), 1);
+        due("x", Checks.xOf(x), 0);
+        x.seed(3);
+        x.season(7, 5);
+        due("undo(1), a season", x.undo(1), 1);
+        due("x as ahead of the season", Checks.xOf(x), 3);
+        x.image(0);
+        due("calls stay behind image()", x.count(9), 1);
+        x.restore(0);
+        due("undo(1), restored", x.undo(1), -3);
+        due("x", x.seed(4), 3);
     }
 
     private static void judge() {
@@ -488,7 +525,7 @@ public final class PromisesTest {
         for (long none : new long[] {10, 99, 110, 199, 210, 999, 2000, -2, 1L << 32, Long.MIN_VALUE}) {
             judged(x, new long[] {none}, 0, 1, 0, 0);
         }
-        due("nothing is done", x.count(9) + x.count(2) + x.count(7) + x.seed(0), 0);
+        due("nothing is done", x.count(9) + x.count(2) + x.count(7) + Checks.xOf(x), 0);
     }
 
     private static void judged(OneOfEach x, long[] deeds, int place, int why, int sold, int till) {
@@ -516,7 +553,7 @@ public final class PromisesTest {
         due("hidden", x.count(3), 0);
         due("price", x.kind(1, 0), 6);
         due("day", x.count(7), 1);
-        due("x", x.seed(12345), 12345);
+        due("x", Checks.xOf(x), 12345);
         due("undo(1), as a whole", x.undo(1), 0);
         due("sold", x.count(2), 0);
         due("hidden", x.count(3), 4);
@@ -537,7 +574,7 @@ public final class PromisesTest {
         due("season(7, 0)", x.season(7, 0), -3);
         due("season(7, 41)", x.season(7, 41), -3);
         due("season(7, 1), no such buyer", x.season(7, 1), 0);
-        due("x stays", x.seed(0), 0);
+        due("x stays", Checks.xOf(x), 0);
         due("calls", x.count(9), 0);
         due("season(7, 2), a gift", x.season(7, 2), 1);
         due("gifts", x.count(6), 1);
@@ -547,7 +584,7 @@ public final class PromisesTest {
         due("till", x.count(5), 4);
         due("gifts", x.count(6), 1);
         due("day", x.count(7), 2);
-        due("x", x.seed(0), -1432285931);
+        due("x", Checks.xOf(x), -1432285931);
         due("undo(1)", x.undo(1), 0);
         due("day", x.count(7), 0);
         due("x", x.seed(0), 0);
@@ -1026,7 +1063,7 @@ public final class PromisesTest {
         x.gift(0);
         x.price(0, 3);
         due("image(1)", x.image(1), 0);
-        due("calls that can be undone stay", x.count(9), 3);
+        due("calls that can be undone stay", x.count(9), 4);
         promise = 44;
         due("restore(2)", x.restore(2), -2);
         due("restore(-1)", x.restore(-1), -2);
@@ -1035,7 +1072,7 @@ public final class PromisesTest {
         for (int i = 0; i < counts.length; i++) {
             counts[i] = x.count(i);
         }
-        int drawn = x.seed(0);
+        int drawn = Checks.xOf(x);
         x.add(1, 1);
         x.days(7);
         Checks.tell(x, CHAIN);
@@ -1046,7 +1083,7 @@ public final class PromisesTest {
         for (int i = 0; i < counts.length; i++) {
             due("count(" + i + ")", x.count(i), counts[i]);
         }
-        due("x", x.seed(0), drawn);
+        due("x", Checks.xOf(x), drawn);
         due("lines", x.count(11), 7);
         due("nothing can be undone", x.count(9), 0);
         due("the tape stays", x.count(10), 20);
