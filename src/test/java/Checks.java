@@ -3,6 +3,7 @@ import java.nio.charset.StandardCharsets;
 /** What the tests of the project share: a count of answers, and a way to tell a shop as a text. */
 final class Checks {
     private final String name;
+    private String sentence = "";
     private int right = 0;
     private int wrong = 0;
 
@@ -10,15 +11,37 @@ final class Checks {
         this.name = name;
     }
 
+    /** The sentence of the document that the answers from here on are due by. */
+    void about(String told) {
+        sentence = "[" + told + "] ";
+    }
+
     void due(String call, long got, long want) {
-        if (got == want) {
+        same(call, Long.toString(got), Long.toString(want));
+    }
+
+    void same(String call, String got, String want) {
+        if (got.equals(want)) {
             right++;
         } else {
             wrong++;
             if (wrong <= 50) {
-                System.out.println(name + ": " + call + " answered " + got + ", due is " + want);
+                String[] other = firstOther(got, want);
+                System.out.println(name + ": " + sentence + call + " answered " + other[0] + ", due is " + other[1]);
             }
         }
+    }
+
+    /** Of two rows of answers between blanks, the first that aren't the same. */
+    private static String[] firstOther(String got, String want) {
+        String[] here = got.split(" ");
+        String[] there = want.split(" ");
+        for (int i = 0; i < here.length && i < there.length; i++) {
+            if (!here[i].equals(there[i])) {
+                return new String[] {here[i], there[i]};
+            }
+        }
+        return new String[] {here.length + " answers", there.length + " answers"};
     }
 
     boolean anyWrong() {
