@@ -369,6 +369,9 @@ public final class AheadEdgesTest {
         // A buyer that buys nothing now needn't then; one whose odds are 0 must.
         rotaIs(LATE + "2 ] and [ who = 0 or kind = 0 ];buyer purse 0;", 1);
         rotaIs(LATE + "2 ] and [ who = 0 or kind = 0 ];buyer purse 9 odds 0;", 2);
+        // Six buyers, as many as there can be: all buy kind 0 now, behind it the first alone kind 1, and then kind 2.
+        rotaIs("shop;kind price 1;kind price 2;kind price 3;" + "buyer purse 9;".repeat(6)
+            + "lets : sold = 0 and [ kind = 0 or kind = 1 and who = 0 or kind = 2 and gone > 1 ];", 2);
         CHECKS.about("32: of those not HIDDEN now");
         rotaIs("shop;kind price 1 hidden;kind price 2;kind price 3;kind price 4;buyer purse 9;lets : sold = 0 and [ kind < 3 or gone > 1 ];", 2);
         // Six of eight: kind 7 can be bought always, kind 6 with two gone.

@@ -78,12 +78,52 @@ public final class RulesTest {
                     !Modifier.isStatic(f.getModifiers()) || Modifier.isFinal(f.getModifiers()));
             }
             must(c + " has at most twenty fields", fields <= 20);
+            types(c);
             for (Method m : c.getDeclaredMethods()) {
                 must(c + "." + m.getName() + " has a name of its own",
                     c == OneOfEach.class || !(" " + FACE).contains(" " + m.getName() + "/"));
                 must(c + "." + m.getName() + " takes at most seven", m.getParameterCount() <= 7);
             }
         }
+    }
+
+    /** Rules 3, 5 and 11: what fields hold, what methods take and answer. */
+    private static void types(Class<?> c) {
+        for (Field f : c.getDeclaredFields()) {
+            boolean constant = Modifier.isStatic(f.getModifiers());
+            must(c + "." + f.getName() + " of " + f.getType(), constant ? isConstant(f.getType()) : isPlain(f.getType()));
+        }
+        for (Method m : c.getDeclaredMethods()) {
+            must(c + "." + m.getName() + " answers " + m.getReturnType(), m.getReturnType() == void.class || isPlain(m.getReturnType()));
+            for (Class<?> type : m.getParameterTypes()) {
+                must(c + "." + m.getName() + " takes " + type, isPlain(type));
+            }
+        }
+        for (Constructor<?> made : c.getDeclaredConstructors()) {
+            must(c + " is made of at most seven", made.getParameterCount() <= 7);
+        }
+    }
+
+    private static boolean isConstant(Class<?> type) {
+        return type == int.class || type == long.class || type == boolean.class || type == char.class || type == String.class;
+    }
+
+    private static boolean isPlain(Class<?> type) {
+        Class<?> part = type.isArray() ? type.getComponentType() : type;
+        return part == int.class || part == long.class || part == boolean.class || part == String.class
+            || part.getName().startsWith("OneOfEach$");
+    }
+
+    /** Rule 4: of the library only these. */
+    private static void library(String code) {
+        Set<String> allowed = Set.of("Arrays.fill", "Arrays.copyOf", "Arrays.copyOfRange", "System.arraycopy", "Integer.bitCount",
+            "Math.max", "Math.min", "Math.abs", "Math.floorMod", "Math.floorDiv");
+        Matcher calls = Pattern.compile("\\b(Math|Integer|Long|Arrays|System|String|Character|Byte|Short|List|Object)\\s*\\.\\s*(\\w+)").matcher(code);
+        while (calls.find()) {
+            String call = calls.group(1) + "." + calls.group(2);
+            must("the library's " + call, allowed.contains(call));
+        }
+        must("no text is joined by +", !Pattern.compile("\"\" *\\+|\\+ *\"\"").matcher(code).find());
     }
 
     private static void source(String source) {
@@ -98,6 +138,7 @@ public final class RulesTest {
         while (imports.find()) {
             must("import " + imports.group(1), imports.group(1).equals("java.util.Arrays"));
         }
+        library(code);
         lengths(code);
     }
 

@@ -171,6 +171,11 @@ public final class TrayEdgesTest {
         sights(Checks.shop(two + "lets : kind = 0 and [ who = 0 or sold = 0 ];"), 4, 0, 1, 29);
         // Buyer 0 buys kind 0 of the first set alone.
         sights(Checks.shop(two + "lets : kind = 0 and [ who = 0 and gone = 0 or who = 1 and sold = 0 ];"), 4, 0, 1, 29);
+        // A buyer of the shop ahead would tell more; it is no more.
+        OneOfEach x = Checks.shop(two + "lets : kind = 0 and [ who = 0 or sold = 0 ];");
+        sights(x, 4, 0, 1, 29);
+        Checks.tell(x, "shop;kind price 1;kind price 1;buyer purse 9;lets : kind = 0;");
+        sights(x, 3, 0, 0, 0);
         // 256 sets by which all buy the same, nothing.
         sights(Checks.shop("shop;" + EIGHT + "buyer purse 0;buyer purse 0;"), 256, 0, 0, 9);
     }
