@@ -174,8 +174,8 @@ public final class TrayEdgesTest {
         // A buyer of the shop ahead would tell more; it is no more.
         OneOfEach x = Checks.shop(two + "lets : kind = 0 and [ who = 0 or sold = 0 ];");
         sights(x, 4, 0, 1, 29);
-        Checks.tell(x, "shop;kind price 1;kind price 1;buyer purse 9;lets : kind = 0;");
-        sights(x, 3, 0, 0, 0);
+        Checks.tell(x, "shop;kind price 1;kind price 1;buyer purse 0;");
+        sights(x, 4, 0, 0, 9);
         // 256 sets by which all buy the same, nothing.
         sights(Checks.shop("shop;" + EIGHT + "buyer purse 0;buyer purse 0;"), 256, 0, 0, 9);
     }
