@@ -18,7 +18,7 @@ public final class ReadmeTest {
     private static final Checks CHECKS = new Checks("ReadmeTest");
     private static final Path README = Path.of("README.md");
     private static final Path TESTS = Path.of("src/test/java");
-    private static final Pattern ROW = Pattern.compile("x\\.(\\w+)\\(([^)]*)\\);\\s*// (-?\\d+).*");
+    private static final Pattern ROW = Pattern.compile("x\\.(\\w+)\\(([^)]*)\\);\\s+// (-?\\d+).*");
 
     public static void main(String[] args) throws IOException, ReflectiveOperationException {
         List<String> page = Files.readAllLines(README);
@@ -75,6 +75,9 @@ public final class ReadmeTest {
         Set<String> called = new HashSet<>(List.of("feed", "shop"));
         for (String line : page) {
             Matcher row = ROW.matcher(line);
+            if (line.startsWith("x.")) {
+                CHECKS.same("a row with its answer: " + line, Boolean.toString(row.matches()), "true");
+            }
             if (row.matches()) {
                 called.add(row.group(1));
                 CHECKS.same(line, answer(x, row.group(1), row.group(2)), row.group(3));
